@@ -557,7 +557,7 @@ public final class NineDancers {
             return false;
         }
 
-        /** One pass is enough: a told remainder leaves no unmet pair of its own, so the first one is ever further on. */
+        /** One pass is enough: a told remainder leaves no unmet pair of its own, so the first one is further on. */
         int roundsByTrying() {
             int told = 0;
             for (int one = 0; one < VILLAGERS; one++) {

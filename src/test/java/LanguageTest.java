@@ -29,6 +29,9 @@ public final class LanguageTest {
         "\\bSystem\\.(?!arraycopy\\b)", "\\bThread\\b", "\\bRandom\\b", "\\bObject\\b", "\\bException\\b",
         "\\bjava\\.(?!util\\.(Arrays|ArrayList|List|Iterator);)"};
 
+    private static final Pattern METHOD =
+            Pattern.compile("^( ++)(?!if|for|while|switch|\\})[\\w\\[\\] ]+\\(.*\\) \\{$");
+
     private static Checks checks;
 
     public static void main(String[] arguments) throws IOException {
@@ -123,7 +126,7 @@ public final class LanguageTest {
     private static void sizes(String source) {
         String[] lines = source.split("\n");
         for (int at = 0; at < lines.length; at++) {
-            Matcher head = Pattern.compile("^( ++)(?!if|for|while|switch|\\})[\\w\\[\\] ]+\\(.*\\) \\{$").matcher(lines[at]);
+            Matcher head = METHOD.matcher(lines[at]);
             if (head.matches()) {
                 int end = at;
                 while (end < lines.length && !lines[end].equals(head.group(1) + "}")) {

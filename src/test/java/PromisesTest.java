@@ -279,6 +279,9 @@ public final class PromisesTest {
         due("6: twice 10", dance.pair(0, 1, 1), 2);
         due("6: once 123", dance.pair(0, 6, 1), 1);
         due("6: once 5", dance.pair(0, 5, 4), 12);
+        Texts.putAll(dance, "9*0,".repeat(14) + "10,0");
+        due("6: a full pad", dance.read(), 4 * 128);
+        due("6: its rounds", dance.count(3), 13 + 128);
         dance = new NineDancers();
         dance.set(0, 9);
         dance.set(1, 0);
@@ -463,6 +466,10 @@ public final class PromisesTest {
         NineDancers dance = new NineDancers();
         due("13: the least of all", dance.bestCall(0), 0);
         due("13: joy of all", dance.bestCall(1), 16);
+        dance.like(4, 6, 1);
+        due("13: the next", dance.bestCall(0), 1);
+        due("13: the next one's joy", dance.bestCall(1), 18);
+        dance.like(4, 6, 0);
         dance.like(3, 5, 1);
         due("13: the last", dance.bestCall(0), 8);
         due("13: its joy", dance.bestCall(1), 18);
@@ -511,6 +518,9 @@ public final class PromisesTest {
         due("14: way -1", dance.fewestRounds(-1), BAD_VALUE);
         due("14: least way", dance.fewestRounds(Integer.MIN_VALUE), BAD_VALUE);
         due("14: rounds", dance.count(3), 2);
+        dance.away(8, false);
+        dance.away(0, false);
+        bothWays(dance, 1);
         NineDancers complete = new NineDancers();
         complete.set(0, 0);
         for (int number = 0; number < 9; number++) {
@@ -562,7 +572,7 @@ public final class PromisesTest {
         due("15: of two who met", dance.untilAllMet(), 0);
     }
 
-    /** The strengths were found by trying many: with them the last pair meets just within 500 rounds, or just behind. */
+    /** Strengths found by trying many: with them the last pair meets just within 500 rounds, or just behind. */
     private static void untilAllMetAtTheEnd() {
         NineDancers dance = tiredDance(2, 2, 16, 9, 20, 13, 15, 9, 4);
         due("15: just within 500", dance.untilAllMet(), 500);
@@ -584,7 +594,7 @@ public final class PromisesTest {
         return dance;
     }
 
-    /** Tells on the object itself what untilAllMet only tries; some calls more than 512, which the class does not count. */
+    /** Tells on the object itself what untilAllMet only tries: more than 512 calls, which the class does not count. */
     private static int roundsByCalling(NineDancers dance) {
         int rounds = 0;
         while (dance.count(7) > 0 && rounds < 600) {
@@ -651,13 +661,17 @@ public final class PromisesTest {
         due("17: again", dance.wipe(), 0);
         due("17: fault", dance.fault(), 0);
         due("17: no change", dance.count(12), 0);
+        Texts.putAll(dance, "2*34");
+        dance.wipe();
         dance.put('5');
         due("17: nothing of the old text", dance.read(), 4);
+        due("17: one round", dance.count(3), 1);
         due("17: last number", dance.count(10), 5);
     }
 
     private static void fault() {
-        String[] faultless = {"0", "1", "9", "10", "99", "100", "999", "2*0", "9*999", "0,0", "2*2,3*3,4", "5*10,0,100"};
+        String[] faultless = {
+            "0", "1", "9", "10", "99", "100", "999", "2*0", "9*999", "0,0", "2*2,3*3,4", "5*10,0,100"};
         for (String text : faultless) {
             faultIs(text, NONE);
         }
