@@ -21,6 +21,15 @@ final class Checks {
         due(what, itDoes ? 1 : 0, 1);
     }
 
+    void same(String what, String got, String want) {
+        if (got.equals(want)) {
+            passed++;
+        } else {
+            failed++;
+            System.out.println(name + ": " + what + " differs: " + Seen.difference(got, want));
+        }
+    }
+
     int failures() {
         return failed;
     }
