@@ -89,7 +89,6 @@ public final class HistoryTest {
             for (int more = 1; more <= 7; more++) {
                 NineDancers dance = changed(9);
                 Seen.undone(dance, undone);
-                String before = Seen.ring(dance);
                 for (int change = 0; change < more; change++) {
                     dance.feed(4, change);
                 }
@@ -98,7 +97,7 @@ public final class HistoryTest {
                 Seen.undone(dance, Math.min(more, 6));
                 due(where + ", undone", dance.count(12), more > 6 ? 0 : Math.min(6 - undone, 6 - more));
                 if (more <= 6) {
-                    checks.same(where, Seen.ring(dance), before);
+                    checks.same(where, Seen.ring(dance), Seen.ring(changed(9 - undone)));
                 } else {
                     due(where + ", strength", dance.villager(4, 1), 0);
                 }
@@ -110,18 +109,23 @@ public final class HistoryTest {
         List<Consumer<NineDancers>> sames = List.of(
                 dance -> dance.set(0, 2), dance -> dance.set(1, 3), dance -> dance.set(2, 2),
                 dance -> dance.like(1, 0, 0), dance -> dance.feed(8, 10), dance -> dance.restore(0));
+        String ring = Seen.ring(new NineDancers());
         for (Consumer<NineDancers> same : sames) {
-            NineDancers dance = new NineDancers();
-            dance.save(0);
-            String ring = Seen.ring(dance);
-            for (int times = 1; times <= 7; times++) {
-                same.accept(dance);
-                due("19: recorded, though the same", dance.count(12), Math.min(times, 6));
-            }
-            checks.same("19: nothing is different", Seen.ring(dance), ring);
+            checks.same("19: nothing is different", Seen.ring(recordedSevenTimes(same)), ring);
+            NineDancers dance = recordedSevenTimes(same);
             due("19: undo", dance.undo(), 5);
             checks.same("19: nor after undo", Seen.ring(dance), ring);
         }
+    }
+
+    private static NineDancers recordedSevenTimes(Consumer<NineDancers> same) {
+        NineDancers dance = new NineDancers();
+        dance.save(0);
+        for (int times = 1; times <= 7; times++) {
+            same.accept(dance);
+            due("19: recorded, though the same", dance.count(12), Math.min(times, 6));
+        }
+        return dance;
     }
 
     private static void noChanges() {
@@ -178,19 +182,28 @@ public final class HistoryTest {
     }
 
     private static void undoKeepsTheSlots() {
-        NineDancers dance = new NineDancers();
-        dance.call(1);
-        dance.call(2);
-        String ring = Seen.ring(dance);
-        due("20: save", dance.save(1), 2);
-        due("19: undo", dance.undo(), 1);
-        due("19: undo", dance.undo(), 0);
+        NineDancers dance = savedAndUndone();
         due("21: the other slot is empty", dance.restore(0), NineDancers.NOT_POSSIBLE);
         due("21: restore", dance.restore(1), 2);
-        checks.same("21: as it was saved", Seen.ring(dance), ring);
+        NineDancers two = new NineDancers();
+        two.call(1);
+        two.call(2);
+        checks.same("21: as it was saved", Seen.ring(dance), Seen.ring(two));
+        dance = savedAndUndone();
+        dance.restore(1);
         due("19: undo of restore", dance.undo(), 0);
         checks.same("19: as it was before", Seen.ring(dance), Seen.ring(new NineDancers()));
         due("21: the slot keeps it", dance.restore(1), 2);
+    }
+
+    private static NineDancers savedAndUndone() {
+        NineDancers dance = new NineDancers();
+        dance.call(1);
+        dance.call(2);
+        due("20: save", dance.save(1), 2);
+        due("19: undo", dance.undo(), 1);
+        due("19: undo", dance.undo(), 0);
+        return dance;
     }
 
     private static void emptySlots() {
@@ -255,35 +268,46 @@ public final class HistoryTest {
     }
 
     private static void saveChangesOnlyItsSlot() {
+        String ring = Seen.ring(States.busy());
         for (int slot = 0; slot < 2; slot++) {
-            NineDancers dance = States.busy();
-            String ring = Seen.ring(dance);
-            due("20: save", dance.save(slot), 5);
+            NineDancers dance = savedIn(slot);
             checks.same("20: the ring", Seen.ring(dance), ring);
             due("20: the pad", dance.count(11), 3);
             due("20: the history", dance.count(12), 6);
+            dance = savedIn(slot);
             NineDancers other = States.busy();
-            int rounds = other.restore(1 - slot);
-            due("20: the other slot", dance.restore(1 - slot), rounds);
+            due("20: the other slot", dance.restore(1 - slot), other.restore(1 - slot));
             checks.same("20: all of the other slot", Seen.ring(dance), Seen.ring(other));
+            dance = savedIn(slot);
             due("20: its own", dance.restore(slot), 5);
             checks.same("20: all of its own", Seen.ring(dance), ring);
         }
     }
 
-    private static void restoreIsOneChange() {
+    private static NineDancers savedIn(int slot) {
         NineDancers dance = States.busy();
-        String ring = Seen.ring(dance);
+        due("20: save", dance.save(slot), 5);
+        return dance;
+    }
+
+    private static void restoreIsOneChange() {
+        NineDancers dance = restoredAndUndone();
+        checks.same("19: as before it", Seen.ring(dance), Seen.ring(States.busy()));
+        dance = restoredAndUndone();
+        due("19: undo of the change before it", dance.undo(), 4);
+        NineDancers other = States.busy();
+        other.undo();
+        checks.same("19: as that one was", Seen.ring(dance), Seen.ring(other));
+    }
+
+    private static NineDancers restoredAndUndone() {
+        NineDancers dance = States.busy();
         due("21: restore", dance.restore(0), 2);
         due("11: the history is full still", dance.count(12), 6);
         due("11: the pad stands", dance.count(11), 3);
         due("18: its fault stands", dance.fault(), 2);
         due("19: undo", dance.undo(), 5);
-        checks.same("19: as before it", Seen.ring(dance), ring);
-        NineDancers other = States.busy();
-        due("19: undo of the change before it", dance.undo(), 4);
-        other.undo();
-        checks.same("19: as that one was", Seen.ring(dance), Seen.ring(other));
+        return dance;
     }
 
     /** More than 512 calls: nothing promises that, but fewer can't reach 9999 rounds. */

@@ -594,10 +594,14 @@ public final class PromisesTest {
         return dance;
     }
 
-    /** Tells on the object itself what untilAllMet only tries: more than 512 calls, which the class does not count. */
+    /** Tells on the object itself what untilAllMet only tries; most of it is read, as 512 calls would not do. */
     private static int roundsByCalling(NineDancers dance) {
-        int rounds = 0;
-        while (dance.count(7) > 0 && rounds < 600) {
+        for (int turn = 0; turn < 55; turn++) {
+            Texts.putAll(dance, "0,1,2,3,4,5,6,7,8");
+            dance.read();
+        }
+        int rounds = dance.count(3);
+        while (dance.count(7) > 0 && rounds < 510) {
             dance.call(rounds % 9);
             rounds++;
         }

@@ -26,6 +26,7 @@ public final class RoundsTest {
         bestCallBelow0();
         everySetOfThoseThere();
         untilAllMetFromAnyRound();
+        mostRoundsWithin512Calls();
         lastRounds();
         checks.finish();
     }
@@ -429,6 +430,28 @@ public final class RoundsTest {
             dance.set(1, 0);
             due("15: strength never comes, after " + told, dance.untilAllMet(), told == 1 ? 0 : NONE);
         }
+    }
+
+    /** Seven puts and a read tell the most numbers a call: 126 in eight; 63 such turns leave eight calls to ask. */
+    private static void mostRoundsWithin512Calls() {
+        NineDancers dance = new NineDancers();
+        Model model = new Model();
+        String text = "9*10" + ",9*7".repeat(11) + ",9*8,9*0";
+        for (int turn = 0; turn < 63; turn++) {
+            Texts.putAll(dance, text);
+            for (int at = 0; at < text.length(); at += 8) {
+                model.put(Texts.packed(text.substring(at, Math.min(at + 8, text.length()))));
+            }
+            due("6: read in turn " + turn, dance.read(), model.read());
+        }
+        due("11: rounds", dance.count(3), 63 * 126);
+        due("11: dances", dance.count(5), model.count(5));
+        due("11: joy", dance.count(6), model.count(6));
+        due("11: left alone", dance.count(8), model.count(8));
+        due("8: rested", dance.villager(4, 4), model.villager(4, 4));
+        due("9: 7 told", dance.pair(0, 7, 3), 63 * 99);
+        due("9: the last round", dance.pair(1, 8, 4), model.pair(1, 8, 4));
+        due("19: undo of the last read", dance.undo(), 5);
     }
 
     /** More than 512 calls: nothing promises that, but fewer can't reach 9999 rounds. */
